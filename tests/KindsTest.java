@@ -7,6 +7,7 @@ public final class KindsTest {
         trace();
         keepAndBack();
         backChangesNothingElse();
+        everyCallByFourOfEach();
         count();
         D.close();
     }
@@ -133,6 +134,30 @@ public final class KindsTest {
         D.due(31, "passes(1) behind it", x.passes(1), 1);
         D.due(31, "undo() behind it", x.undo(), 0);
         D.due(31, "back(1)", x.back(1), 0);
+    }
+
+    private static void everyCallByFourOfEach() {
+        NoBetweens x = Dues.told("s1 6 2;s2 6 3;s3 6 1;s0 6 4;l0 6 3 3 3 3 2 3;l6 3 0 3 0 3 0 3;l0 3 1 4 0 3 0 3;l6 0 6 0 6 0 6 0;"
+            + "p1;p7;p13;p19;p25;p31;p37;p43;");
+        D.due(13, "now(1)", x.now(1), 0);
+        D.due(13, "now(2)", x.now(2), 3);
+        D.due(11, "law(3, 1, 1)", x.law(3, 1, 1), 1);
+        D.due(15, "first(3, 0)", x.first(3, 0), 1);
+        D.due(15, "first(3, 1)", x.first(3, 1), 0);
+        D.due(15, "first(1, 0)", x.first(1, 0), NoBetweens.NONE);
+        // Life 0 is then between in year 1 alone, life 3 in year 1 by scale 0 as well.
+        D.due(16, "freed(3, 0, 1)", x.freed(3, 0, 1), 20);
+        D.due(17, "bestJump(3, 1), life 3 falls", x.bestJump(3, 1), 1);
+        D.due(17, "bestJump(3, 0)", x.bestJump(3, 0), 1);
+        x.plans(3, 9);
+        D.due(20, "orders(0, -1)", x.orders(0, -1), 1);
+        D.due(20, "orders(3, -1)", x.orders(3, -1), 1);
+        D.due(22, "trip(0, 0, 7, 0)", x.trip(0, 0, 7, 0), 7);
+        D.due(22, "trip(0, 7, 0, 1)", x.trip(0, 7, 0, 1), 6);
+        D.due(28, "clash()", x.clash(), NoBetweens.NONE);
+        D.due(29, "rate(1, 3)", x.rate(1, 3), 28);
+        D.due(9, "passes(1)", x.passes(1), 1);
+        D.due(9, "now(4)", x.now(4), 5);
     }
 
     private static void count() {

@@ -152,6 +152,11 @@ public final class LandTest {
         fault("d x", 2);
         fault("p1;p61;x", 4);
         fault("x;p61;", 0);
+        StringBuilder full = new StringBuilder("p1;p2;");
+        while (full.length() < 200) {
+            full.append(full.length() % 2 == 0 ? 'd' : '5');
+        }
+        fault(full.toString(), 8);
     }
 
     private static void landChangesNothingByAFault() {

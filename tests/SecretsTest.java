@@ -264,6 +264,10 @@ public final class SecretsTest {
         D.due(27, "sure(1, 60)", x.sure(1, 60), -5);
         x.books(0, 2, 0);
         D.due(27, "sure(0, 60), none fits", x.sure(0, 60), NoBetweens.NONE);
+        x.burn();
+        x.books(0, 0, 1);
+        D.due(27, "sure(0, 0) of r alone", x.sure(0, 0), 1);
+        D.due(27, "sure(0, 1) of r alone", x.sure(0, 1), -5);
         D.due(27, "sure(0, 61)", x.sure(0, 61), NoBetweens.BAD);
         D.due(27, "sure(0, -1)", x.sure(0, -1), NoBetweens.BAD);
         D.due(27, "sure(2, 0)", x.sure(2, 0), NoBetweens.BAD);
@@ -286,6 +290,8 @@ public final class SecretsTest {
         D.due(28, "nearer and jump behind the middle", clashOf("s3 6 2;s0 6 4;"), NoBetweens.NONE);
         D.due(28, "nearer and jump off the middle", clashOf("s3 6 2;s0 6 5;"), 1);
         D.due(28, "nearer of odd range", clashOf("s3 5 2;s0 5 3;"), NoBetweens.NONE);
+        D.due(28, "at the greatest value but one", clashOf("s0 5 5;s2 5 1;s3 5 1;"), 2);
+        D.due(28, "four alike", clashOf("s0 5 2;s0 5 2;s0 5 2;s0 5 2;"), NoBetweens.NONE);
         D.due(28, "the last pair", clashOf("s0 9 1;s0 8 1;s0 7 1;s0 7 2;"), 23);
         D.due(28, "the second and the last", clashOf("s0 9 1;s0 7 1;s0 8 1;s0 7 2;"), 13);
         D.due(28, "the first of several", clashOf("s0 9 1;s0 7 1;s0 7 2;s0 9 2;"), 3);

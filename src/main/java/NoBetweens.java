@@ -931,50 +931,44 @@ public final class NoBetweens {
 
         private void splitsIntoTokens() {
             int many = 0;
-            int at = 0;
-            while (at < length) {
-                int stop = endOfToken(at);
-                if (letters[at] != BLANK) {
-                    tokens[many] = tokenOf(at, stop);
+            for (int at = 0; at < length; at++) {
+                if (startsToken(at)) {
+                    tokens[many] = tokenFrom(at);
                     starts[many] = at;
                     many++;
                 }
-                at = stop;
             }
             tokens[many] = ENDED;
             starts[many] = length;
         }
 
-        private int endOfToken(int start) {
-            int stop = start + 1;
-            if (isDigit(letters[start])) {
-                while (stop < length && isDigit(letters[stop])) {
-                    stop++;
-                }
-            }
-            return stop;
+        private boolean startsToken(int at) {
+            boolean withinNumber = isDigit(at) && isDigit(at - 1);
+            return letters[at] != BLANK && !withinNumber;
         }
 
-        private int tokenOf(int start, int stop) {
-            int letter = letters[start];
-            if (isDigit(letter)) {
-                return numberOf(start, stop);
+        private int tokenFrom(int at) {
+            if (isDigit(at)) {
+                return numberFrom(at);
             }
+            int letter = letters[at];
             boolean known = letter == 's' || letter == 'l' || letter == 'd' || letter == 'p' || letter == ';';
             return known ? -letter : OTHER;
         }
 
-        private int numberOf(int start, int stop) {
-            int leading = letters[start] - '0';
-            int digits = stop - start;
-            if (digits == 1) {
+        private int numberFrom(int at) {
+            int leading = letters[at] - '0';
+            if (!isDigit(at + 1)) {
                 return leading;
             }
-            return digits == 2 && leading > 0 ? 10 * leading + letters[start + 1] - '0' : OTHER;
+            if (leading == 0 || isDigit(at + 2)) {
+                return OTHER;
+            }
+            return 10 * leading + letters[at + 1] - '0';
         }
 
-        private static boolean isDigit(int letter) {
-            return letter >= '0' && letter <= '9';
+        private boolean isDigit(int at) {
+            return at >= 0 && at < length && letters[at] >= '0' && letters[at] <= '9';
         }
 
         private void readsItem() {
