@@ -446,10 +446,10 @@ final class Model {
         if (i == -1) {
             return found.size();
         }
-        if (i >= planned.size()) {
-            return -5;
+        if (found.isEmpty()) {
+            return -9;
         }
-        return found.isEmpty() ? -9 : found.get(0).get(i);
+        return i < found.get(0).size() ? found.get(0).get(i) : -5;
     }
 
     int bars(int l) {

@@ -145,7 +145,7 @@ public final class ModelTest {
     }
 
     private void middleCalls(int which, int s, int l, int law, int t, int by, int n, int what) {
-        int i = near(-1, 4);
+        int i = near(-1, 5);
         switch (which) {
             case 13 -> same("behind", x.behind(n, l, s), m.behind(n, l, s));
             case 14 -> same("first", x.first(l, what), m.first(l, what));

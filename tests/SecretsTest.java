@@ -60,6 +60,9 @@ public final class SecretsTest {
         D.due(20, "orders(1, -1)", x.orders(1, -1), 0);
         D.due(20, "orders(1, 0)", x.orders(1, 0), NoBetweens.NONE);
         D.due(20, "orders(1, 1)", x.orders(1, 1), NoBetweens.NONE);
+        D.due(20, "orders(1, 2), no order that could be too short", x.orders(1, 2), NoBetweens.NONE);
+        D.due(20, "orders(1, MAX)", x.orders(1, Integer.MAX_VALUE), NoBetweens.NONE);
+        D.due(20, "orders(1, -2), BAD though there is no order", x.orders(1, -2), NoBetweens.BAD);
         x.plans(0, 9);
         // From 0: (2 0 1), (1 2 0) ends at 6, (2 1 0) at 3, (0 ..) begins at 3, (1 0 ..) at 3.
         D.due(20, "orders(1, -1)", x.orders(1, -1), 2);

@@ -238,13 +238,14 @@ public final class NoBetweens {
         if (!told.hasLife(l) || i < -1) {
             return BAD;
         }
+        int found = lawfulOrders(l, NONE);
         if (i == -1) {
-            return lawfulOrders(l, NONE);
+            return found;
         }
-        if (i >= agenda.size) {
-            return UNCLEAR;
+        if (found == 0) {
+            return NONE;
         }
-        return lawfulOrders(l, NONE) == 0 ? NONE : agenda.firstOrder[i];
+        return i < agenda.size ? agenda.firstOrder[i] : UNCLEAR;
     }
 
     public int bars(int l) {
