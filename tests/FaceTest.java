@@ -5,7 +5,9 @@ import java.lang.reflect.Method;
 import java.lang.reflect.Modifier;
 import java.nio.file.Files;
 import java.nio.file.Path;
+import java.util.Map;
 import java.util.Set;
+import java.util.TreeMap;
 import java.util.TreeSet;
 import java.util.regex.Matcher;
 import java.util.regex.Pattern;
@@ -25,7 +27,9 @@ public final class FaceTest {
     public static void main(String[] args) throws Exception {
         face();
         classes();
-        words(Files.readString(Path.of(args.length > 0 ? args[0] : "src/main/java/NoBetweens.java")));
+        String file = Files.readString(Path.of(args.length > 0 ? args[0] : "src/main/java/NoBetweens.java"));
+        words(file);
+        lengthsAndDepths(file);
         D.close();
     }
 
@@ -124,5 +128,39 @@ public final class FaceTest {
             count++;
         }
         return count;
+    }
+
+    private static final Pattern METHOD = Pattern.compile(
+        "(?m)^( +)(?:public |private )?(?:static )?(?:int|long|boolean|void) (\\w+)\\([^)]*\\) \\{\n((?s:.*?))^\\1\\}$");
+    private static final int MOST_LINES = 60, MOST_DEEP = 8;
+
+    /** Methods of one name are taken as one, which can only make the calls look deeper than they are. */
+    private static void lengthsAndDepths(String file) {
+        Map<String, Set<String>> callsOf = new TreeMap<>();
+        Matcher m = METHOD.matcher(file);
+        while (m.find()) {
+            one(m.group(2) + " is short", m.group(3).split("\n").length <= MOST_LINES);
+            Set<String> calls = callsOf.computeIfAbsent(m.group(2), name -> new TreeSet<>());
+            Matcher call = Pattern.compile("\\b(\\w+)\\(").matcher(m.group(3));
+            while (call.find()) {
+                calls.add(call.group(1));
+            }
+        }
+        for (String call : CALLS) {
+            String name = call.substring(call.indexOf(' ') + 1, call.indexOf('('));
+            one(name + " is found in the file", callsOf.containsKey(name));
+            one(name + " calls eight deep at most, and nothing that calls itself", depth(callsOf, name, 1) <= MOST_DEEP);
+        }
+    }
+
+    private static int depth(Map<String, Set<String>> callsOf, String name, int deep) {
+        int most = deep;
+        if (deep <= MOST_DEEP) {
+            for (String called : callsOf.getOrDefault(name, Set.of())) {
+                boolean isOurs = callsOf.containsKey(called);
+                most = Math.max(most, isOurs ? depth(callsOf, called, deep + 1) : deep);
+            }
+        }
+        return most;
     }
 }

@@ -46,11 +46,7 @@ public final class NoBetweens {
         if (!within(letter, 0, 255)) {
             return BAD;
         }
-        if (text.length >= MOST_LETTERS) {
-            return FULL;
-        }
-        text.adds(letter);
-        return text.length;
+        return text.adds(letter) ? text.length : FULL;
     }
 
     public int clear() {
@@ -144,11 +140,7 @@ public final class NoBetweens {
     }
 
     public int undo() {
-        if (past.known == 0) {
-            return STATE;
-        }
-        past.givesBack(present);
-        return past.known;
+        return past.givesBack(present) ? past.known : STATE;
     }
 
     public int now(int what) {
@@ -221,11 +213,7 @@ public final class NoBetweens {
         if (!told.hasScale(s) || !within(by, -MOST_BY, MOST_BY)) {
             return BAD;
         }
-        if (agenda.size >= MOST_PLANNED) {
-            return FULL;
-        }
-        agenda.adds(s, by);
-        return agenda.size;
+        return agenda.adds(s, by) ? agenda.size : FULL;
     }
 
     public int drop() {
@@ -296,11 +284,7 @@ public final class NoBetweens {
         if (!told.hasScale(s) || !within(year, 0, YEARS_SEEN) || !within(end, 0, LAST_END)) {
             return BAD;
         }
-        if (register.size >= MOST_BOOKS) {
-            return FULL;
-        }
-        register.adds(s, year, end);
-        return register.size;
+        return register.adds(s, year, end) ? register.size : FULL;
     }
 
     public int burn() {
@@ -593,6 +577,7 @@ public final class NoBetweens {
         return found;
     }
 
+    // A planned change has its SCALE for good: land(), which alone takes SCALES away, drops what is planned.
     private boolean staysLawful(int l, int many) {
         for (int s = 0; s < told.scales; s++) {
             agenda.values[s] = present.values[cell(l, s)];
@@ -803,10 +788,15 @@ public final class NoBetweens {
             known = Math.min(MOST_KNOWN, known + 1);
         }
 
-        void givesBack(Moment moment) {
+        /** False, and nothing changes, if no moment is known. */
+        boolean givesBack(Moment moment) {
+            if (known == 0) {
+                return false;
+            }
             next = (next + MOST_KNOWN - 1) % MOST_KNOWN;
             known--;
             moment.becomes(ring[next]);
+            return true;
         }
     }
 
@@ -819,10 +809,15 @@ public final class NoBetweens {
         final int[] firstOrder = new int[MOST_PLANNED];
         final int[] values = new int[MOST_SCALES];
 
-        void adds(int s, int by) {
+        /** False, and nothing changes, if there is no room. */
+        boolean adds(int s, int by) {
+            if (size >= MOST_PLANNED) {
+                return false;
+            }
             scales[size] = s;
             bys[size] = by;
             size++;
+            return true;
         }
 
         void keepsAsFirst() {
@@ -885,11 +880,16 @@ public final class NoBetweens {
         final int[] years = new int[MOST_BOOKS];
         final int[] ends = new int[MOST_BOOKS];
 
-        void adds(int s, int year, int end) {
+        /** False, and nothing changes, if there is no room. */
+        boolean adds(int s, int year, int end) {
+            if (size >= MOST_BOOKS) {
+                return false;
+            }
             scales[size] = s;
             years[size] = year;
             ends[size] = end;
             size++;
+            return true;
         }
     }
 
@@ -911,9 +911,14 @@ public final class NoBetweens {
         private int fault = NO_FAULT;
         private boolean drawerTold = false;
 
-        void adds(int letter) {
+        /** False, and nothing changes, if there is no room. */
+        boolean adds(int letter) {
+            if (length >= MOST_LETTERS) {
+                return false;
+            }
             letters[length] = letter;
             length++;
+            return true;
         }
 
         /** How many items the text has, or FAULTY less the place of its fault. */
@@ -939,6 +944,7 @@ public final class NoBetweens {
                     many++;
                 }
             }
+            // No item takes ENDED, so that next never goes beyond it.
             tokens[many] = ENDED;
             starts[many] = length;
         }
